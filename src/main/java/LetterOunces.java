@@ -1015,13 +1015,15 @@ public final class LetterOunces {
             int unsaid = now.unsaid(letter);
             int cases = 0;
             for (int slip = 0; slip < WORD_SETS; slip++) {
-                int kept = unsaid & ~slip;
-                int chance = power(c, Integer.bitCount(slip)) * power(10 - c, Integer.bitCount(kept));
-                if ((slip & ~unsaid) == 0 && chance > 0) {
-                    trial.become(now);
-                    trial.said[letter] |= slip;
-                    trial.passDays(n);
-                    cases += trial.weight(letter) <= w ? chance : 0;
+                if ((slip & ~unsaid) != 0) {
+                    continue;
+                }
+                trial.become(now);
+                trial.said[letter] |= slip;
+                trial.passDays(n);
+                if (trial.weight(letter) <= w) {
+                    int kept = Integer.bitCount(unsaid & ~slip);
+                    cases += power(c, Integer.bitCount(slip)) * power(10 - c, kept);
                 }
             }
             return cases;

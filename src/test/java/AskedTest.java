@@ -59,6 +59,9 @@ final class AskedTest {
         x.say(2, 0);
         x.say(2, 1);
         asked(check, x, 2, 1, -996, 22, 21, 20);
+        LetterOunces y = Check.reading("p0,0;o1;o1;l1,0;l1,0;v3,3;");
+        asked(check, y, 2, 1, 8, 24, 21, 20);
+        asked(check, y, 2, 0, -10, 12, 11, 10, 24, 21, 20);
         check.due("ask(5, 0)", x.ask(5, 0), Check.BAD);
         check.due("ask(-1, 0)", x.ask(-1, 0), Check.BAD);
         check.due("ask(0, 2)", x.ask(0, 2), Check.BAD);

@@ -36,6 +36,14 @@ final class ForetoldTest {
         x.days(1);
         check.due("ahead(2, 1, 0) from DAY 1", x.ahead(2, 1, 0), 3);
         check.due("ahead(2, 2, 0) from DAY 1", x.ahead(2, 2, 0), 1);
+        // Nothing happens on odd days, and yet they are not the last on which something does.
+        x = Check.reading("p0,0;o1;o2;b3,0;");
+        int[] boys = {4, 1, 1, 0, 0};
+        for (int d = 0; d < 5; d++) {
+            check.due("ahead(0, " + d + ", 0) of a boy's alone", x.ahead(0, d, 0), boys[d]);
+        }
+        x = Check.reading("p0,0;o2;o1;l3,0;");
+        check.due("ahead(0, 2, 1): two words on two days", x.ahead(0, 2, 1), 3);
         x = Check.reading("p9,0;o9;o9;l3,0;");
         check.due("one that is SENT blurts no more", x.ahead(0, 60, 0), 9);
     }
@@ -166,6 +174,7 @@ final class ForetoldTest {
         shares(check, x, 7, 0, 0, 0, 0);
         shares(check, Check.reading("p0,60;o3;o3;l0,0;l1,0;l2,0;"), 1, 0, 1, 0);
         shares(check, Check.reading("p0,60;o3;l0,0;l1,1;"), 99, 0, 0);
+        shares(check, Check.reading("p0,60;o1;l1,0;l1,0;l1,0;l1,0;"), 6, 2, 2, 1, 1);
     }
 
     private static void nothingChanges(Check check) {
