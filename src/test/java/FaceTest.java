@@ -2,8 +2,11 @@ import java.lang.reflect.Constructor;
 import java.lang.reflect.Field;
 import java.lang.reflect.Method;
 import java.lang.reflect.Modifier;
+import java.util.ArrayList;
+import java.util.List;
 import java.util.Set;
 import java.util.TreeSet;
+import java.util.stream.Stream;
 
 /** The public face as the document prints it and nothing beside it (LANGUAGE 1), and promise 1. */
 final class FaceTest {
@@ -14,6 +17,8 @@ final class FaceTest {
     public static void main(String[] args) {
         Check check = new Check();
         face(check);
+        names(check);
+        staticFields(check);
         newObject(check);
         check.end();
     }
@@ -49,6 +54,39 @@ final class FaceTest {
         check.due("BAD", LetterOunces.BAD, Check.BAD);
         check.due("STATE", LetterOunces.STATE, Check.STATE);
         check.due("FULL", LetterOunces.FULL, Check.FULL);
+    }
+
+    private static List<Class<?>> classes() {
+        List<Class<?>> classes = new ArrayList<>(List.of(LetterOunces.class.getDeclaredClasses()));
+        classes.add(LetterOunces.class);
+        return classes;
+    }
+
+    /** LANGUAGE 1: no other method bears the name of a public one, and LANGUAGE 11: some twenty fields. */
+    private static void names(Check check) {
+        Set<String> names = new TreeSet<>(Set.of(FACE.replaceAll("\\d", "").split(" ")));
+        for (Class<?> c : classes()) {
+            for (Method m : c.getDeclaredMethods()) {
+                boolean isPublic = c == LetterOunces.class && Modifier.isPublic(m.getModifiers());
+                check.due(m + " bears a name of the face", names.contains(m.getName()) && !isPublic ? 1 : 0, 0);
+            }
+            long fields = Stream.of(c.getDeclaredFields()).filter(f -> !Modifier.isStatic(f.getModifiers())).count();
+            check.due(c + " has more than twenty fields", fields > 20 ? 1 : 0, 0);
+        }
+    }
+
+    /** LANGUAGE 5: constants and arrays of numbers. */
+    private static void staticFields(Check check) {
+        Set<Class<?>> types = Set.of(int.class, long.class, boolean.class, char.class, String.class, int[].class,
+                long[].class, char[].class, byte[].class);
+        for (Class<?> c : classes()) {
+            for (Field f : c.getDeclaredFields()) {
+                if (Modifier.isStatic(f.getModifiers())) {
+                    boolean isConstant = Modifier.isFinal(f.getModifiers()) && types.contains(f.getType());
+                    check.due(f + " is a constant", isConstant ? 1 : 0, 1);
+                }
+            }
+        }
     }
 
     private static void newObject(Check check) {

@@ -28,6 +28,7 @@ final class Terms3Test {
         test.slips();
         test.slipsEnds();
         test.years();
+        test.yearsOfOneLetter();
         test.yearsWrap();
         test.kinds();
         test.check.end();
@@ -243,6 +244,9 @@ final class Terms3Test {
         x.back(2);
         loads(x, 99, 6, 9);
         loads(x, 8, 2, 5);
+        LetterOunces one = Check.reading("p0,60;o9;l1,0;");
+        loads(one, 8, 0, 0);
+        loads(one, 9, 1, 9);
         LetterOunces heavy = Check.reading("p0,60;" + NINES + "v63,0;v63,0;v63,0;v63,0;v63,0;v63,0;v63,0;");
         loads(heavy, 99, 0, 0);
         LetterOunces full = Check.reading("p0,60;" + NINES + "l63,0;l31,0;l31,0;l31,0;l31,0;l31,0;l31,0;");
@@ -304,6 +308,11 @@ final class Terms3Test {
         x.back(0);
         x.back(6);
         shares(x, 999, 0, 0, 0, 400, 0, 0, 599);
+        LetterOunces ones = Check.reading("p0,60;o1;l1,0;l1,0;l1,1;l1,0;");
+        shares(ones, 1, 1, 0, 0, 0);
+        shares(ones, 2, 1, 1, 0, 0);
+        shares(ones, 3, 1, 1, 0, 1);
+        shares(ones, 4, 2, 1, 0, 1);
         LetterOunces none = Check.reading("p0,60;o1;l0,0;l1,1;c1,0;");
         shares(none, 999, 0, 0, 0);
     }
@@ -479,6 +488,19 @@ final class Terms3Test {
         // Of seed 2 X is 33614: by 2 it leaves 0, by 3 it leaves 2: nothing is returned, nothing taken back.
         x.back(0);
         check.due("drawn(1, 2, 0), a STRAP of 14", x.drawn(1, 2, 0), 5);
+    }
+
+    private void yearsOfOneLetter() {
+        check.says("the LETTER that is the rest of X by how many there are is returned, if X by 3 leaves 0,");
+        LetterOunces x = Check.reading("p99,60;o9;l1,0;");
+        x.days(1);
+        check.due("drawn(1, 3, 0)", x.drawn(1, 3, 0), 9);
+        check.due("drawn(1, 1, 0)", x.drawn(1, 1, 0), 0);
+        // Of seed 3 X is 50421, and leaves 0 by 7; of seed 127774 it is 13971, and leaves 6.
+        x = Check.reading("p99,60;o1;o9;l1,0;l1,0;l1,0;l1,0;l1,0;l1,0;l2,0;");
+        x.days(1);
+        check.due("drawn(1, 3, 0) of seven", x.drawn(1, 3, 0), 1);
+        check.due("drawn(1, 127774, 0) of seven", x.drawn(1, 127774, 0), 9);
     }
 
     private void yearsWrap() {
